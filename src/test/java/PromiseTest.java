@@ -600,6 +600,7 @@ public final class PromiseTest {
         Check.due("17: the dead end alone", net(3, 1, 2, 8, 8, 16, 16, 8).sound(0), 0);
         Check.due("17: a token is left behind", net(1, 2, 1, 2, 1, 4, 4, 8, 8, 4).sound(0), 0);
         Check.due("17: the sink has a token too early", net(1, 3, 1, 2).sound(0), 0);
+        Check.due("17: too early, though the final one comes yet", net(1, 1, 1, 2).sound(0), 0);
         Check.due("17: two tokens in the sink", net(1, 6, 1, 2, 1, 4).sound(0), 0);
         Check.due("17: a dead activity", net(1, 1, 2, 2).sound(0), 0);
         Check.due("17: a dead activity among the last", net(1, 3, 2, 2).sound(0), 0);
@@ -732,6 +733,11 @@ public final class PromiseTest {
         trace(y, 0, 2, 1, 3);
         y.mine();
         Check.due("20: as many, but one is another", y.same(), false);
+        FootprintNet fewer = net(1, 8, 4, 8, 2, 8, 1, 4);
+        trace(fewer, 0, 1, 2, 3);
+        trace(fewer, 0, 2, 1, 3);
+        fewer.mine();
+        Check.due("20: a place fewer in net 0", fewer.same(), false);
         FootprintNet z = net(8, 8);
         trace(z, 3, 1, 1, 3);
         z.mine();
