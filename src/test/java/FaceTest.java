@@ -5,10 +5,13 @@ import java.lang.reflect.Method;
 import java.lang.reflect.Modifier;
 import java.nio.file.Files;
 import java.nio.file.Path;
+import java.util.ArrayList;
+import java.util.List;
 import java.util.Set;
 import java.util.TreeSet;
 import java.util.regex.Matcher;
 import java.util.regex.Pattern;
+import java.util.stream.Stream;
 
 /** The class has the document's face and no more, and keeps clear of what LANGUAGE.md forbids. */
 public final class FaceTest {
@@ -25,14 +28,25 @@ public final class FaceTest {
         "\\bRandom\\b", "\\bSystem\\b(?!\\.arraycopy)", "\\bThread\\b", "Exact\\b",
         "\\bimport\\b(?! java\\.util\\.(Arrays|ArrayList|List|Iterator);)"};
 
+    private static final int MOST_CLASSES = 12;
+    private static final int MOST_FIELDS = 20;
+    private static final int MOST_PARAMETERS = 7;
+    private static final int MOST_LINES = 60;
+
+    /** Where a method or, if it has no type before its name, a constructor begins. */
+    private static final Pattern HEAD = Pattern.compile(
+            "^ {4,8}(?:(?:public|private|static) )*((?:int|long|boolean|void|[A-Z]\\w*) )?\\w+\\([^;]*\\{$");
+
     private FaceTest() {
     }
 
-    public static void main(String[] args) throws IOException {
+    public static void main(String[] args) throws IOException, ReflectiveOperationException {
         face();
         constants();
         nothingElseToBeSeen();
+        sizes();
         source();
+        objectsAreMadeInConstructors();
         Check.end();
     }
 
@@ -58,11 +72,18 @@ public final class FaceTest {
         return m.getReturnType().getName() + " " + m.getName() + "(" + text + ")";
     }
 
-    private static void constants() {
-        Check.due("BAD", FootprintNet.BAD, -1);
-        Check.due("MANY", FootprintNet.MANY, -2);
-        Check.due("WIDE", FootprintNet.WIDE, -3);
-        Check.due("DOUBLE", FootprintNet.DOUBLE, -4);
+    private static void constants() throws ReflectiveOperationException {
+        constant("BAD", -1);
+        constant("MANY", -2);
+        constant("WIDE", -3);
+        constant("DOUBLE", -4);
+    }
+
+    private static void constant(String name, int due) throws ReflectiveOperationException {
+        Field f = FootprintNet.class.getDeclaredField(name);
+        Check.holds(f + " is public static final int", f.getType() == int.class
+                && f.getModifiers() == (Modifier.PUBLIC | Modifier.STATIC | Modifier.FINAL));
+        Check.due(name, f.getInt(null), due);
     }
 
     private static void nothingElseToBeSeen() {
@@ -74,8 +95,11 @@ public final class FaceTest {
         Constructor<?>[] made = FootprintNet.class.getDeclaredConstructors();
         Check.due("constructors", made.length, 1);
         Check.due("parameters of the constructor", made[0].getParameterCount(), 0);
+        Check.holds("the constructor is public", Modifier.isPublic(made[0].getModifiers()));
         for (Class<?> inside : FootprintNet.class.getDeclaredClasses()) {
             Check.holds(inside + " is static", Modifier.isStatic(inside.getModifiers()));
+            Check.holds(inside + " is private or package-visible",
+                    (inside.getModifiers() & (Modifier.PUBLIC | Modifier.PROTECTED)) == 0);
             noStaticStateIn(inside);
             for (Method m : inside.getDeclaredMethods()) {
                 Check.holds(m + " bears a name of the face", !isNameOfFace(m.getName()));
@@ -99,12 +123,47 @@ public final class FaceTest {
         }
     }
 
-    private static void source() throws IOException {
+    private static void sizes() {
+        List<Class<?>> all = new ArrayList<>(List.of(FootprintNet.class.getDeclaredClasses()));
+        all.add(FootprintNet.class);
+        Check.holds(all.size() + " classes", all.size() <= MOST_CLASSES);
+        for (Class<?> one : all) {
+            long fields = Stream.of(one.getDeclaredFields())
+                    .filter(f -> !Modifier.isStatic(f.getModifiers())).count();
+            Check.holds(fields + " fields in " + one, fields <= MOST_FIELDS);
+            for (Method m : one.getDeclaredMethods()) {
+                Check.holds("parameters of " + m, m.getParameterCount() <= MOST_PARAMETERS);
+            }
+        }
+    }
+
+    /** Without its comments. */
+    private static String code() throws IOException {
         String text = Files.readString(Path.of("src/main/java/FootprintNet.java"));
-        String code = text.replaceAll("(?s)/\\*.*?\\*/", " ").replaceAll("//[^\n]*", " ");
+        return text.replaceAll("(?s)/\\*.*?\\*/", " ").replaceAll("//[^\n]*", " ");
+    }
+
+    private static void source() throws IOException {
+        String code = code();
         for (String word : FORBIDDEN) {
             Matcher found = Pattern.compile(word).matcher(code);
             Check.holds("no " + word, !found.find());
+        }
+    }
+
+    /** What a call would make is counted in every run, so a method makes nothing. */
+    private static void objectsAreMadeInConstructors() throws IOException {
+        boolean inConstructor = false;
+        int lines = 0;
+        for (String line : code().split("\n")) {
+            Matcher head = HEAD.matcher(line);
+            if (head.find()) {
+                inConstructor = head.group(1) == null;
+                lines = 0;
+            }
+            lines++;
+            Check.holds("not too long a method: " + line, lines <= MOST_LINES);
+            Check.holds("made in a constructor: " + line, inConstructor || !line.contains("new "));
         }
     }
 }
